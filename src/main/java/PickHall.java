@@ -24,6 +24,9 @@ public final class PickHall {
     private static final int MAX_TEXT = 600;
     private static final int SLOTS = 2;
 
+    // Greater than every sum that is compared with it.
+    private static final int NOTHING_YET = 1000000000;
+
     private static final int OPEN = 0;
     private static final int BATCHED = 1;
     private static final int DONE = 2;
@@ -1361,7 +1364,7 @@ public final class PickHall {
             }
             int room = weight - hall.weightOfAll(members);
             int companion = 0;
-            int least = Integer.MAX_VALUE;
+            int least = NOTHING_YET;
             for (int order = 0; order < hall.orders.count; order++) {
                 if ((candidates >> order & 1) != 0 && hall.weightOf(order) <= room) {
                     int newAisles = Integer.bitCount(hall.aislesOf(order) & ~aisles);
@@ -1447,7 +1450,7 @@ public final class PickHall {
         void arrange(Hall hall, int rule) {
             schedule.measureWork(hall);
             if (rule == SORT_BY_SEARCH) {
-                least = Integer.MAX_VALUE;
+                least = NOTHING_YET;
                 search(hall, 0, 0, 0);
             } else {
                 fillKeys(hall, rule);
