@@ -2,6 +2,7 @@
 public final class BatchesTest {
     public static void main(String[] args) {
         promise18MakeBatches();
+        promise18Companions();
         promise18Limits();
         promise19AddBatch();
         promise20Dissolve();
@@ -57,6 +58,30 @@ public final class BatchesTest {
         batches("too heavy ones stay open", w, 4 + 1, 32);
         Check.same("all together", 1, w.makeBatches(6, 99999, 2));
         batches("present batches stay", w, 4 + 1, 32, 8 + 2);
+    }
+
+    private static void promise18Companions() {
+        // Seed {0}, then order 1 (aisle 1 is new), then order 2 with the aisles 0 and 1 before the earlier order 3.
+        PickHall x = Texts.hall("hall 4 10 2; item 0 1 1 99; item 1 1 1 99; item 2 1 1 99;"
+                + "order 0 line 0 1; order 1 line 1 1; order 9 line 0 1 line 1 1; order 2 line 2 1;");
+        x.makeBatches(3, 99, 0);
+        batches("aisles of all orders count", x, 1 + 2 + 4, 8);
+
+        // The weight of all orders counts: 10 and 10 leave no room for 11, but for 10.
+        PickHall y = Texts.hall("hall 4 10 2; item 0 1 1 99; order 0 line 0 10; order 1 line 0 10;"
+                + "order 2 line 0 11; order 3 line 0 10;");
+        y.makeBatches(6, 30, 0);
+        batches("weight of all orders", y, 1 + 2 + 8, 4);
+
+        // One new aisle at once is worse than none at the latest time.
+        PickHall z = Texts.hall("hall 4 10 2; item 0 1 1 99; item 1 1 1 99; order 0 line 0 1; order 0 line 1 1;"
+                + "order 9999 line 0 1; order 9999 line 0 1;");
+        z.makeBatches(2, 99, 0);
+        batches("aisles before due times", z, 1 + 4, 2 + 8);
+
+        PickHall u = Texts.hall("hall 1 2 1; item 0 1 1 9; order 1; order 9999 line 0 1;");
+        Check.same("the latest due time can be a seed", 1, u.makeBatches(1, 1, 0));
+        batches("the latest due time can be a seed", u, 2);
     }
 
     private static void promise18Limits() {

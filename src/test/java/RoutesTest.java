@@ -206,6 +206,16 @@ public final class RoutesTest {
         x.addBatch(3);
         Check.same("gap", 8 + 22 + 2 * 7 + 2 * 2 + 2 * 6, x.routeLength(0, 0, 2));
         stops("gap", x, 0, 2, 1, 0, 3, 2, 7, 9, 8, 6, 4, 5);
+
+        PickHall y = Texts.hall("hall 3 2 1; item 0 1 1 9; item 1 1 1 9; item 1 2 1 9; item 2 1 1 9; item 2 2 1 9;"
+                + "order 1 line 0 1 line 1 1 line 2 1 line 3 1 line 4 1; zones 1;");
+        y.addBatch(1);
+        Check.same("two aisles are both traversed", 2 + 6, y.routeLength(0, 1, 2));
+        stops("two aisles are both traversed", y, 1, 2, 1, 2, 4, 3);
+        y.setZones(-1, -1);
+        // Three gaps of 1 in aisle 1: the one at the front end is left out.
+        Check.same("gaps of 1", 4 + 6 + 4, y.routeLength(0, 0, 2));
+        stops("gaps of 1", y, 0, 2, 0, 2, 1, 4, 3);
     }
 
     private static void promise35Combined() {

@@ -3,6 +3,7 @@ public final class SavedStatesTest {
     public static void main(String[] args) {
         promise58Save();
         promise58KeepsAll();
+        promise58FullHall();
         promise59Restore();
         promise59LeavesTextAndError();
         Check.end("SavedStatesTest");
@@ -59,6 +60,29 @@ public final class SavedStatesTest {
         Check.state("order 0 was ordered again", x, () -> x.reorder(0, 1));
         Check.same("depth", 3, x.addItem(2, 10, 1, 1));
         Check.index("depth", x, () -> x.addItem(2, 11, 1, 1));
+    }
+
+    /** As many items, orders, lines and batches as there can be, the last order picked first. */
+    private static void promise58FullHall() {
+        PickHall x = new PickHall();
+        for (int item = 0; item < 24; item++) {
+            x.addItem(item % 4, 1 + item % 10, 1 + item, 90 + item);
+        }
+        for (int order = 0; order < 16; order++) {
+            x.addOrder(order);
+            for (int line = 0; line < 6; line++) {
+                x.addLine(order, (order + line) % 24, 10 + order + line);
+            }
+        }
+        x.addBatch(1 << 15);
+        Check.same("units", 25 + 26 + 27 + 28 + 29 + 30, x.pickBatch());
+        x.makeBatches(2, 99999, 1);
+        String before = Snapshot.of(x);
+        x.save(0);
+        Texts.load(x, "hall 1 2 1; item 0 1 1 1;");
+        x.restore(0);
+        Check.same("all of it", before, Snapshot.of(x));
+        Check.same("picked in the last line", 30, x.pickedUnits(15, 5));
     }
 
     private static void promise59Restore() {

@@ -173,6 +173,8 @@ public final class ScheduleTest {
         x.setDue(0, 9999);
         mean("0 by 2", x, 0, 1);
         x.dissolve(1);
+        x.setDue(0, 21);
+        mean("5 by 1", x, 5, 1);
         x.dissolve(0);
         mean("no batched orders", x, 0, 1);
         PickHall y = Texts.hall("hall 1 4 1; times 0 0; item 0 3 1 9; order 0 line 0 1; order 9 line 0 1;"

@@ -9,6 +9,7 @@ public final class SetupTest {
         promise55Replaces();
         promise55Blanks();
         promise56And57Ends();
+        promise56And57EndOfBuffer();
         promise56And57NotAllowed();
         promise56And57OutOfRange();
         promise56And57TooMany();
@@ -160,7 +161,31 @@ public final class SetupTest {
         wrongBehind("policy gap", 1, 10);
     }
 
+    private static void cut(String text, int length, int code, int position) {
+        PickHall x = new PickHall();
+        Texts.put(x, text);
+        x.truncateText(length);
+        x.load();
+        Check.same("[" + text + "] cut, code", code, x.errorCode());
+        Check.same("[" + text + "] cut, position", position, x.errorPosition());
+    }
+
+    /** Bytes behind the end of the text do not count, nor do any behind the end of a full buffer. */
+    private static void promise56And57EndOfBuffer() {
+        cut("hall 4 10 25;", 11, 1, 11);
+        cut("hall 4 10 2;policy gap;", 21, 1, 19);
+        cut("hall 4 10 2;", 12, 0, -1);
+        String blanks = " ".repeat(600);
+        wrong(HALL + "times 1 " + "0".repeat(580), 1, 600);
+        wrong(HALL + "a".repeat(588), 1, 12);
+        wrong(HALL + blanks.substring(0, 584) + "item", 1, 600);
+        PickHall x = new PickHall();
+        Check.same("full of blanks", 0, Texts.load(x, HALL + blanks.substring(0, 588)));
+        Check.same("full of blanks", 0, Texts.load(x, blanks.substring(0, 588) + HALL));
+    }
+
     private static void promise56And57NotAllowed() {
+        wrong("ball 4 10 2;", 1, 0);
         wrong("halls 4 10 2;", 1, 0);
         wrong("item 0 1 1 1;", 1, 0);
         wrong("4 10 2;", 1, 0);
