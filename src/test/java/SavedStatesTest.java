@@ -62,27 +62,34 @@ public final class SavedStatesTest {
         Check.index("depth", x, () -> x.addItem(2, 11, 1, 1));
     }
 
-    /** As many items, orders, lines and batches as there can be, the last order picked first. */
-    private static void promise58FullHall() {
-        PickHall x = new PickHall();
+    /** As many items, orders and lines as there can be; the last order is picked, the others are batched. */
+    private static void fill(PickHall x, int least) {
         for (int item = 0; item < 24; item++) {
-            x.addItem(item % 4, 1 + item % 10, 1 + item, 90 + item);
+            x.addItem(item % x.aisleCount(), 1 + item % 2, least + item, 90 + item);
         }
         for (int order = 0; order < 16; order++) {
-            x.addOrder(order);
+            x.addOrder(least + order);
             for (int line = 0; line < 6; line++) {
-                x.addLine(order, (order + line) % 24, 10 + order + line);
+                x.addLine(order, (order + line + least) % 24, least + order + line);
             }
         }
         x.addBatch(1 << 15);
-        Check.same("units", 25 + 26 + 27 + 28 + 29 + 30, x.pickBatch());
+        int units = 6 * (least + 15) + 15;
+        Check.same("units", units, x.pickBatch());
         x.makeBatches(2, 99999, 1);
+    }
+
+    private static void promise58FullHall() {
+        PickHall x = new PickHall();
+        fill(x, 10);
         String before = Snapshot.of(x);
         x.save(0);
-        Texts.load(x, "hall 1 2 1; item 0 1 1 1;");
+        Texts.load(x, "hall 6 2 1;");
+        fill(x, 3);
         x.restore(0);
         Check.same("all of it", before, Snapshot.of(x));
         Check.same("picked in the last line", 30, x.pickedUnits(15, 5));
+        Check.same("nothing is short in it", 0, x.shortUnits(15, 5));
     }
 
     private static void promise59Restore() {
