@@ -92,6 +92,9 @@ final class BatchEdges {
         Sentences.test(SECTION, "The seed is the best candidate by the seed rule, of several the one with the lowest");
         orders("9999 0 1, 0 1 1, 0 2 1, 1 3 1").is("makeBatches 1 99 0", 4).batches(2, 4, 8, 1);
         orders("0 0 1, 9 1 99, 8 2 99, 7 3 98").is("makeBatches 1 99 1", 4).batches(2, 4, 8, 1);
+        // The latest due time can be that of a seed, and the lowest number need not be a candidate.
+        orders("0, 9999 0 1").is("makeBatches 1 99 0", 1).batches(2);
+        orders("0, 9998 0 1, 9999 0 1").is("makeBatches 1 99 0", 2).batches(2, 4);
         // The aisles count, not the lines: order 0 has two lines in one aisle.
         Run.of(ITEMS + "addItem 0 2 1 9").then("addOrder 0\naddLine 0 0 1\naddLine 0 4 1\naddOrder 9\naddLine 1 2 1\n"
                 + "addLine 1 3 1\naddOrder 8\naddLine 2 0 1\naddLine 2 1 1\naddOrder 7\naddLine 3 1 1")
@@ -109,6 +112,10 @@ final class BatchEdges {
         orders("0 0 1, 1 1 1, 9999 0 9").is("makeBatches 2 99 0", 2).batches(5, 2);
         orders("0 0 1, 6 1 1, 5 2 1").is("makeBatches 2 99 0", 2).batches(5, 2);
         orders("0 0 1, 5 1 1, 5 2 1, 5 0 1 3 1").is("makeBatches 2 99 0", 2).batches(3, 12);
+        orders("0 0 1, 0 1 1, 9999 0 1").is("makeBatches 2 99 0", 2).batches(5, 2);
+        // Aisle 0 is as new as the others for a seed in aisle 1; the added one can be order 0.
+        orders("1 2 1, 9 0 1, 0 1 1").is("makeBatches 2 99 0", 2).batches(5, 2);
+        orders("9 3 1 2 1, 8 0 1 3 1, 0 3 1").is("makeBatches 2 99 0", 2).batches(6, 1);
         // None fits, although there are candidates: the batch stays with its seed.
         orders("0 0 9, 1 0 8, 2 0 7").is("makeBatches 6 9 0", 3).batches(1, 2, 4);
     }
@@ -247,11 +254,19 @@ final class BatchEdges {
         // The earliest of the due times 9999 and 0 is 0; the due times 5 and 5 are equal.
         orders("5 0 1, 5 0 1, 9999 0 1, 0 0 1").then("addBatch 2\naddBatch 1\naddBatch 12")
                 .is("sortBatches 0", 0 + 3 + 1 + 4).batches(12, 2, 1);
+        // The earliest order of a batch is its lowest one, or its highest one.
+        orders("1 0 1, 9 0 1, 2 0 1, 8 0 1, 9 0 1, 0 0 1").then("addBatch 12\naddBatch 3\naddBatch 48")
+                .then("sortBatches 0").batches(48, 3, 12);
         // Work times 7, 3, 7, 3 and 3: equal ones stay as they are.
         orders("0 0 1, 0 1 1, 0 0 1, 0 0 1, 0 1 1").then("addBatch 16\naddBatch 8\naddBatch 2\naddBatch 1\naddBatch 4")
                 .is("workTime 0 0", 7).is("workTime 1 0", 3).is("sortBatches 1", 3 + 6 + 9 + 16 + 23)
                 .batches(8, 1, 4, 16, 2);
         Run.of(Halls.FULL).then("sortBatches 0").batches(128, 64, 32, 16, 8, 4, 2, 1);
+        // A sequence that is ascending already stays, by both rules; then one batch alone.
+        orders("1 0 1, 2 1 1, 3 2 1").then("addBatch 1\naddBatch 2\naddBatch 4\nsortBatches 0").batches(1, 2, 4)
+                .then("sortBatches 1").batches(1, 2, 4).then("setDue 2 0\nsortBatches 0").batches(4, 1, 2)
+                .then("sortBatches 1").batches(1, 2, 4).then("setDue 2 0\nsortBatches 0\ndissolve 1\ndissolve 0\nsortBatches 0")
+                .batches(2);
         Run.of(Halls.NEW).are("sortBatches #", 0, 0, 0);
         orders("1 0 1").then("addBatch 1").are("sortBatches #", 2, 2, 2).batches(1);
     }

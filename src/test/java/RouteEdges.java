@@ -146,11 +146,17 @@ final class RouteEdges {
             same.then("setPolicy " + policy).stops(0, 0, 1, 3, 0, 2, 4);
         }
         batch("2 2 1", "1 2, 0 1, 1 2, 0 1").then("setPolicy 1").stops(0, 0, 1, 3, 0, 2);
+        // Items of no order, and of another batch, at the same places.
+        same.then("addItem 0 2 1 1\naddItem 0 1 1 1\naddOrder 0\naddLine 1 6 1\naddBatch 2").stops(0, 0, 1, 3, 0, 2, 4)
+                .stops(1, 0, 6).lengths(1, 0, 2, 2, 2, 2);
         Sentences.test(SECTION, "An aisle that is traversed from front to back is visited by ascending places, and one from");
         batch("2 20 1", "0 20, 0 1, 1 1, 1 20").then("setPolicy 1").stops(0, 0, 1, 0, 3, 2)
                 .then("setPolicy 2").stops(0, 0, 1, 0, 3, 2).then("setPolicy 3").stops(0, 0, 1, 0, 3, 2);
         Sentences.test(SECTION, "An aisle that is entered and left at its front end is visited by ascending places");
         batch("3 20 1", "0 20, 1 19, 1 20, 2 20, 2 19").then("setPolicy 3").stops(0, 0, 0, 2, 1, 3, 4);
+        // Behind two traversed aisles the picker is in front again.
+        batch("3 20 1", "0 20, 1 20, 1 1, 2 2, 2 1").then("setPolicy 3").is("routeLength 0 0 3", 4 + 42 + 4)
+                .stops(0, 0, 0, 1, 2, 4, 3);
         Sentences.test(SECTION, "One policy is in force (0 at first).");
         Run.of(Halls.NEW).is("setPolicy 3", 0);
         batch("1 2 1", "0 2").is("batchRoute 0", 4).is("setPolicy 0", 0);

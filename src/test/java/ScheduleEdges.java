@@ -80,6 +80,10 @@ final class ScheduleEdges {
                 .then("setBuffer 0 3").are("leaveTime # 0", 2, 4, 6, 8, 42, 44)
                 .then("setBuffer 0 4").are("leaveTime # 0", 2, 4, 6, 8, 10, 42)
                 .are("startTime # 1", 2, 42, 44, 46, 48, 50).are("leaveTime # 1", 42, 44, 46, 48, 50, 52);
+        // Batch 0 can leave at once, also when it has nothing to do.
+        for (int capacity = 0; capacity <= 4; capacity++) {
+            batches(3, "0 0 1").then("setBuffer 0 " + capacity + "\nsetBuffer 1 " + capacity).are("leaveTime 0 #", 0, 0, 2);
+        }
         // Fewer batches than the capacity, and just as many: none waits. One more waits.
         batches(2, "1 20, 1 1, 1 1").then("setBuffer 0 4").are("leaveTime # 0", 2, 4, 6).is("blockedTime 0", 0);
         batches(2, "1 20, 1 1, 1 1").then("setBuffer 0 2").is("blockedTime 0", 0).then("setBuffer 0 1")
@@ -192,6 +196,18 @@ final class ScheduleEdges {
         batches(1, "1, 1").is("meanTardinessNumerator", 3).then("setDue 0 1").is("meanTardinessNumerator", 5)
                 .then("setDue 0 2\nsetDue 1 4").is("meanTardinessNumerator", 0).then("dissolve 0\ndissolve 0")
                 .is("meanTardinessNumerator", 0);
+        // One order alone; two of them beside orders that are open, done and cancelled: only BATCHED ones are counted.
+        batches(1, "1").then("setDue 0 1").is("meanTardinessNumerator", 1).is("meanTardinessDenominator", 1);
+        batches(1, "1, 1, 1, 1, 1").then("pickBatch\ndissolve 3\ncancel 3\nsetDue 1 1")
+                .is("meanTardinessNumerator", 5).is("meanTardinessDenominator", 2)
+                .then("dissolve 1").is("meanTardinessNumerator", 1).is("meanTardinessDenominator", 1);
+        // The greatest number of orders: 16 of them, of which one is late by 1.
+        Run sixteen = Run.of("setTimes 0 0\naddItem 0 1 1 1");
+        for (int order = 0; order < 16; order++) {
+            sixteen.then("addOrder " + (order == 15 ? 1 : 2) + "\naddLine " + order + " 0 1");
+        }
+        sixteen.then("addBatch 65535").is("meanTardinessNumerator", 1).is("meanTardinessDenominator", 16);
+
         Sentences.test("Promise 46", "Returns the denominator of this mean in lowest terms; 1 if there are no BATCHED orders.");
         Run.of(Halls.NEW).is("meanTardinessDenominator", 1);
         Run.of("addOrder 0").is("meanTardinessDenominator", 1);

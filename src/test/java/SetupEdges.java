@@ -268,6 +268,25 @@ final class SetupEdges {
         behind("order 1 1", 1, 8);
         behind("policy @", 1, 7);
         behind("order 10000", 2, 6);
+        // Where a semicolon must stand: each other kind of token, and a byte of no token.
+        for (String text : new String[] {"item 3 1 50 9", "order 1", ITEM + "order 1 line 0 1", "zones 1", "zones 1 2",
+            "buffer 1 4", "times 9 9", "policy gap"}) {
+            behind(text + "@", 1, text.length());
+            behind(text + (char) 255 + ";", 1, text.length());
+            behind(text + " policy;", 1, text.length() + 1);
+        }
+        for (String text : new String[] {"item 3 1 50 9", "order 1", "zones 1 2", "buffer 1 4", "times 9 9", "policy gap"}) {
+            behind(text + " 3;", 1, text.length() + 1);
+        }
+        wrong("hall 4 10 2@", 1, 11);
+        wrong("hall 4 10 2:", 1, 11);
+        wrong("hall 4 10 2 2;", 1, 12);
+        wrong("hall 4 10 2 order 1;", 1, 12);
+        // Where a number must stand: a semicolon.
+        for (String text : new String[] {"item", "item 0", "item 0 1", "item 0 1 1", "order", ITEM + "order 1 line",
+            ITEM + "order 1 line 0", "zones", "buffer", "buffer 0", "times", "times 0"}) {
+            behind(text + ";", 1, text.length());
+        }
         // The same item again in one order, by another number of digits too; in another order it is allowed.
         behind(ITEM + "order 1 line 0 1 line 0 1;", 2, 35);
         behind(ITEM + "order 1 line 0 1 line 000 100;", 2, 35);
@@ -363,6 +382,11 @@ final class SetupEdges {
             Run.of(hall).then(text).is("batchCount", 0).are("zoneOf #", 0, 0, 0, 0, 0, 0).is("setPolicy 0", 0)
                     .is("setTimes 0 1", 1).is("setBuffer 0 1", 1).is("setBuffer 1 1", 1).is("totalOrdered", 0);
         }
+        // Order 0 of BUSY was ordered again; order 0 of the text was not.
+        Run.of(Halls.BUSY).then(text + "addOrder 1\naddLine 1 0 99\naddBatch 1\npickBatch").is("stock 0", 900)
+                .refuses("reorder 0 1", Run.STATE);
+        Run.of(Halls.BUSY).then("truncateText 0\ntext hall 1 2 1;item 0 1 1 0;order 1 line 0 1;order 1 line 0 1;\nload\n"
+                + "addBatch 3\npickBatch").is("reorder 0 1", 2).is("reorder 1 1", 3);
         Run.of(Halls.BUSY).then(text + "restore 0").is("itemCount", 6).is("orderCount", 8).is("batchCount", 2);
         Run.of(Halls.FULL).then(text + "restore 1").is("itemCount", 24).is("orderCount", 16).is("batchCount", 8);
         Run.of("text hall 2 2 1;zones 1;policy combined;times 99 0;buffer 0 0;buffer 1 4;\nload").are("zoneOf #", 0, 1)
