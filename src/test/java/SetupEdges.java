@@ -82,6 +82,19 @@ final class SetupEdges {
             behind("or" + strange + "der 1;", 1, 0);
         }
         behind("azaz 1;", 1, 0);
+        // Words that differ from a right one in their first or last letter only.
+        wrong("xall 4 10 2;", 1, 0);
+        wrong("halx 4 10 2;", 1, 0);
+        for (String statement : new String[] {"item 0 1 1 1", "order 1", "zones 1", "buffer 0 1", "times 1 1", "policy gap"}) {
+            int end = statement.indexOf(' ');
+            behind("x" + statement.substring(1) + ";", 1, 0);
+            behind(statement.substring(0, end - 1) + "x" + statement.substring(end) + ";", 1, 0);
+        }
+        behind(ITEM + "order 1 xine 0 1;", 1, 21);
+        behind(ITEM + "order 1 linx 0 1;", 1, 21);
+        for (String policy : new String[] {"xeturn", "returx", "xshape", "sshapx", "xap", "gax", "xombined", "combinex"}) {
+            behind("policy " + policy + ";", 1, 7);
+        }
         behind("orderx 1;", 1, 0);
         behind("orde r 1;", 1, 0);
         behind("orderorder 1;", 1, 0);
