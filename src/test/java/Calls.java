@@ -1,9 +1,13 @@
 import java.lang.reflect.InvocationTargetException;
 import java.lang.reflect.Method;
 import java.util.Arrays;
+import java.util.HashMap;
+import java.util.Map;
 
 /** Calls that are written as texts, like "addItem 0 3 2 5", on a PickHall or a Model. */
 final class Calls {
+    private static final Map<String, Method> METHODS = new HashMap<>();
+
     private Calls() {
     }
 
@@ -35,8 +39,10 @@ final class Calls {
     }
 
     private static String invoke(Object hall, String name, Object... numbers) {
+        String key = hall.getClass().getName() + " " + name + " " + numbers.length;
+        Method method = METHODS.computeIfAbsent(key, unknown -> method(hall, name, numbers.length));
         try {
-            return String.valueOf(method(hall, name, numbers.length).invoke(hall, numbers));
+            return String.valueOf(method.invoke(hall, numbers));
         } catch (InvocationTargetException e) {
             return e.getCause().getClass().getSimpleName();
         } catch (IllegalAccessException e) {

@@ -1,5 +1,7 @@
 import java.util.ArrayList;
 import java.util.List;
+import java.util.Map;
+import java.util.TreeSet;
 
 /** A new hall and calls on it, each of which is checked; a label tells the sentence that they are about. */
 final class Run {
@@ -26,13 +28,30 @@ final class Run {
         return this;
     }
 
-    private Run copy() {
+    /** Another hall with the same calls. */
+    Run copy() {
         Run copy = new Run();
         for (String call : calls) {
             Calls.answer(copy.hall, call);
             copy.calls.add(call);
         }
         return copy;
+    }
+
+    /** The answer of a call that may change the hall or be refused. */
+    String ask(String call) {
+        String answer = Calls.answer(hall, call);
+        calls.add(call);
+        return answer;
+    }
+
+    int number(String call) {
+        return Integer.parseInt(ask(call));
+    }
+
+    /** All that the calls without effect tell. */
+    String look() {
+        return Snapshot.of(hall);
     }
 
     /** All that can be seen of this hall, by means of a copy. */
@@ -64,6 +83,37 @@ final class Run {
         Check.same(label(call), kind, Calls.answer(touched.hall, call));
         Check.same(label(call) + ": the hall behind it", probe(), Probe.of(touched.hall));
         Check.same(label(call) + " once more", kind, Calls.answer(hall, call));
+        return this;
+    }
+
+    /**
+     * The call changes just these facts, and no others; "order 3 *" stands for those whose names begin like this.
+     */
+    Run changes(String call, String... names) {
+        Map<String, String> before = Facts.of(copy());
+        then(call);
+        Map<String, String> after = Facts.of(copy());
+        TreeSet<String> changed = new TreeSet<>(before.keySet());
+        changed.addAll(after.keySet());
+        changed.removeIf(fact -> before.getOrDefault(fact, "").equals(after.getOrDefault(fact, "")));
+        TreeSet<String> told = new TreeSet<>();
+        for (String fact : changed) {
+            String name = fact;
+            for (String one : names) {
+                boolean stands = one.endsWith("*") && fact.startsWith(one.substring(0, one.length() - 1));
+                name = stands ? one : name;
+            }
+            told.add(name);
+        }
+        Check.same(label(call) + " changes", new TreeSet<>(List.of(names)).toString(), told.toString());
+        return this;
+    }
+
+    /** The call is answered, and no other call can tell afterwards that it was made. */
+    Run keeps(String call) {
+        Run touched = copy();
+        Check.same(label(call) + " is refused", 0, Calls.isRefusal(touched.ask(call)) ? 1 : 0);
+        Check.same(label(call) + ": the hall behind it", probe(), Probe.of(touched.hall));
         return this;
     }
 

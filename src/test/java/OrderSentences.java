@@ -1,8 +1,8 @@
-/** The boundary cases of the orders and their lines: promises 8 to 17. */
-final class OrderEdges {
+/** The sentences about the orders and their lines: promises 8 to 17. */
+final class OrderSentences {
     private static final String SECTION = "ORDERS";
 
-    private OrderEdges() {
+    private OrderSentences() {
     }
 
     static void run() {
@@ -14,6 +14,9 @@ final class OrderEdges {
         promise14();
         promise15And16();
         promise17();
+        promise8And9Plain();
+        promise14Plain();
+        whichOrder();
     }
 
     private static void ordersAndLines() {
@@ -174,5 +177,49 @@ final class OrderEdges {
         Sentences.test("Promise 17", "Throws `IllegalStateException` if the order is DONE or CANCELLED");
         Run.of(Halls.BUSY).refuses("cancel 0", Run.STATE).refuses("cancel 1", Run.STATE).refuses("cancel 7", Run.STATE)
                 .then("cancel 6").refuses("cancel 6", Run.STATE);
+    }
+
+    private static void promise8And9Plain() {
+        Sentences.test("Promise 8", "Returns the number of the order.");
+        Run.of(Halls.NEW).is("addOrder 9", 0).is("addOrder 5", 1).then("cancel 0").is("addOrder 7", 2);
+        Run.of(Halls.BUSY).is("addOrder 5", 9).is("reorder 2 5", 10).is("addOrder 5", 11);
+        Sentences.test("Promise 9", "- `order`: an order");
+        Run.of("addItem 0 1 1 1\naddOrder 1\naddOrder 1\naddOrder 1").range("addLine # 0 1", 0, 2, Run.INDEX);
+        Sentences.test("Promise 9", "- `item`: an item");
+        Run.of(Halls.BUSY).range("addLine 6 # 7", 0, 5, Run.INDEX);
+        // The item and the quantity of each line are those that were told.
+        Run.of(Halls.BUSY).changes("addLine 6 4 3", "order 6 lines").is("orderWeight 6", 12).is("orderAisles 6", 16)
+                .changes("addLine 6 2 2", "order 6 lines").is("orderWeight 6", 112).is("orderAisles 6", 20)
+                .then("dissolve 0\ndissolve 0\naddBatch 64").is("pickBatch", 5).are("pickedUnits 6 #", 3, 2)
+                .is("stock 4", 6).is("stock 2", 994);
+        Sentences.test("Promise 9", "Returns the number of the line.");
+        Run.of(Halls.BUSY).is("addLine 6 5 1", 0).is("addLine 8 5 1", 2).is("addLine 6 0 1", 1).is("addLine 6 3 1", 2);
+    }
+
+    private static void promise14Plain() {
+        Sentences.test("Promise 14", "Sets the due time of an order that is OPEN or BATCHED.");
+        Run.of(Halls.BUSY).changes("setDue 6 77", "order 6 due").is("due 6", 77).changes("setDue 8 78", "order 8 due")
+                .changes("setDue 4 79", "order 4 due").are("due #", 20, 0, 50, 30, 79, 9999, 77, 6, 78);
+        // The lateness goes with it: batch 0 is complete at 72.
+        Run.of(Halls.BUSY).is("lateness 4", 62).then("setDue 4 70").is("lateness 4", 2).is("lateOrders", 24)
+                .then("setDue 4 72").is("lateness 4", 0).is("lateOrders", 8).is("totalTardiness", 42);
+        Sentences.test("Promise 15", "Returns its weight.");
+        Run.of(Halls.BUSY).are("orderWeight #", 7 * 2 + 2 * 3, 3 * 50, 4 * 3, 2 + 4, 9 * 50 + 1, 99 * 2, 0, 2 * 4, 2 * 2 + 2 * 3);
+    }
+
+    /** Orders in all states, but for setDue and cancel, which take those that are OPEN or BATCHED. */
+    private static void whichOrder() {
+        String[] names = {"orderState", "lineCount", "due", "", "orderWeight", "orderAisles"};
+        for (int k = 0; k < names.length; k++) {
+            if (!names[k].isEmpty()) {
+                Sentences.test("Promise " + (11 + k), "- `order`: an order");
+                Run.of(Halls.BUSY).range(names[k] + " #", 0, 8, Run.INDEX).then(names[k] + " 3\n" + names[k] + " 7");
+            }
+        }
+        Sentences.test("Promise 14", "- `order`: an order");
+        Run.of("addOrder 3\naddOrder 3\naddOrder 3").range("setDue # 4", 0, 2, Run.INDEX);
+        Sentences.test("Promise 17", "- `order`: an order");
+        Run.of("addOrder 3\naddOrder 3\naddOrder 3").range("cancel #", 0, 2, Run.INDEX).then("cancel 1")
+                .are("orderState #", 0, 3, 0);
     }
 }

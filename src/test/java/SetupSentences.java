@@ -1,10 +1,10 @@
-/** The boundary cases of the text buffer and the setups: promises 53 to 57. */
-final class SetupEdges {
+/** The sentences about the text buffer and the setups: promises 53 to 57. */
+final class SetupSentences {
     private static final String SECTION = "SETUP TEXTS";
     private static final String HALL = "hall 4 10 2;";
     private static final String ITEM = "item 0 1 1 1;";
 
-    private SetupEdges() {
+    private SetupSentences() {
     }
 
     static void run() {
@@ -21,6 +21,7 @@ final class SetupEdges {
         promise54();
         promise55();
         promise56And57();
+        promise53To55Plain();
     }
 
     private static void answers(PickHall x, String text, int answer, int code, int position) {
@@ -431,5 +432,26 @@ final class SetupEdges {
                 .then("text hall 1 2 1;\nload").is("errorPosition", -1).then("load").is("errorPosition", 0)
                 .then("save 0\naddOrder 1\nrestore 0\nappendText 0").is("errorPosition", 0)
                 .then("truncateText 0\ntext hall 1 2 1;\nload").is("errorPosition", -1);
+    }
+
+    private static void promise53To55Plain() {
+        Sentences.test("Promise 53", "- `fourBytes`: the bytes");
+        // "hall", " 2 3" and " 4;" with one byte too many, then the same in two more parts.
+        Run.of(Halls.NEW).changes("appendText " + 0x68616C6C, "text").changes("appendText " + 0x20322033, "text")
+                .is("appendText " + 0x20343B40, 12).is("truncateText 11", 11).is("load", 0).is("aisleCount", 2)
+                .is("setLayout 1 3 4", 3);
+        Sentences.test("Promise 54", "Returns the new length.");
+        Run.of("text hall 2 3 4;").is("truncateText 11", 11).is("truncateText 5", 5).is("truncateText 5", 5)
+                .is("truncateText 0", 0);
+        Sentences.test("Promise 55", "Reads the text as a setup.");
+        // The text says what these calls say one by one.
+        String calls = "setLayout 5 12 3\naddItem 4 12 7 30\naddItem 0 1 50 0\naddItem 2 6 3 999\naddOrder 40\naddLine 0 2 5\n"
+                + "addLine 0 0 33\naddOrder 9\naddOrder 0\naddLine 2 1 1\nsetZones 1 3\nsetBuffer 0 4\nsetBuffer 1 0\n"
+                + "setTimes 12 34\nsetPolicy 3\n";
+        String text = "text hall 5 12 3; item 4 12 7 30; item 0 1 50 0; item 2 6 3 999; order 40 line 2 5 line 0 33; order 9;"
+                + " order 0 line 1 1; zones 1 3; buffer 0 4; buffer 1 0; times 12 34; policy combined;\n";
+        for (String more : new String[] {"", "addBatch 5\n", "makeBatches 1 99999 0\nsortBatches 2\n", "addBatch 1\npickBatch\n"}) {
+            Check.same("[" + Sentences.current() + "] " + more, Run.of(calls + more).probe(), Run.of(text + "load\n" + more).probe());
+        }
     }
 }

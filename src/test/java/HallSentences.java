@@ -1,8 +1,8 @@
-/** The boundary cases of the hall and its items: promises 1 to 7. */
-final class HallEdges {
+/** The sentences about the hall and its items: promises 1 to 7. */
+final class HallSentences {
     private static final String SECTION = "HALL AND ITEMS";
 
-    private HallEdges() {
+    private HallSentences() {
     }
 
     static void run() {
@@ -14,6 +14,8 @@ final class HallEdges {
         promise4();
         promise6();
         promise7();
+        promise4Plain();
+        promise6And7Plain();
     }
 
     private static void sizes() {
@@ -165,5 +167,36 @@ final class HallEdges {
         Run.of(Halls.BUSY).is("stock 2", 996).range("restock 2 #", 1, 3, Run.ARGUMENT)
                 .is("stock 0", 0).range("restock 0 #", 1, 999, Run.ARGUMENT);
         Run.of(Halls.FULL).noneOf("restock 23 #", Run.ARGUMENT);
+    }
+
+    private static void promise4Plain() {
+        Sentences.test("Promise 4", "Adds an item.");
+        // In aisle 3, at place 7, with the weight 9 and a stock of 4.
+        Run.of(Halls.NEW).changes("addItem 3 7 9 4", "item 0 *").is("stock 0", 4)
+                .then("addOrder 0\naddLine 0 0 5\naddBatch 1").is("orderAisles 0", 8).is("orderWeight 0", 45)
+                .is("batchRoute 0", 2 * 3 * 2 + 2 * 7).is("pickBatch", 4).is("stock 0", 0);
+        Run.of(Halls.BUSY).changes("addItem 0 1 1 1", "item 6 *").changes("addItem 4 10 50 999", "item 7 *");
+        Sentences.test("Promise 4", "- `aisle`: an aisle");
+        Run.of(Halls.NEW).range("addItem # 1 1 1", 0, 3, Run.INDEX);
+        Run.of("setLayout 6 2 1").range("addItem # 2 1 1", 0, 5, Run.INDEX);
+        Sentences.test("Promise 4", "Returns the number of the item.");
+        Run.of(Halls.NEW).is("addItem 3 1 1 1", 0).is("addItem 0 1 1 1", 1).is("addItem 3 1 1 1", 2);
+        Run.of(Halls.BUSY).is("addItem 0 1 1 1", 6).is("addItem 0 1 1 1", 7).is("itemCount", 8);
+    }
+
+    private static void promise6And7Plain() {
+        Sentences.test("Promise 6", "- `item`: an item");
+        Run.of(Halls.BUSY).range("stock #", 0, 5, Run.INDEX);
+        Sentences.test("Promise 6", "Returns its stock.");
+        // 5 of item 0 and 3 of item 2 are picked.
+        Run.of(Halls.BUSY).are("stock #", 0, 0, 996, 20, 9, 3).then("pickBatch").are("stock #", 0, 0, 987, 18, 8, 2)
+                .then("restore 0").are("stock #", 5, 0, 999, 20, 9, 3);
+        Sentences.test("Promise 7", "Adds units to the stock of an item.");
+        Run.of(Halls.BUSY).changes("restock 3 7", "item 3 stock").are("stock #", 0, 0, 996, 27, 9, 3)
+                .changes("restock 3 1", "item 3 stock").is("stock 3", 28);
+        // What is restocked can be picked: order 5 wants 99 units of item 0.
+        Run.of(Halls.BUSY).then("restock 0 60\npickBatch").is("pickBatch", 60).is("pickedUnits 5 0", 60).is("stock 0", 0);
+        Sentences.test("Promise 7", "- `item`: an item");
+        Run.of(Halls.BUSY).range("restock # 1", 0, 5, Run.INDEX);
     }
 }

@@ -1,6 +1,6 @@
-/** The boundary cases of the saved states: promises 58 and 59; and what holds for all exceptions. */
-final class SavedEdges {
-    private SavedEdges() {
+/** The sentences about the saved states: promises 58 and 59; and what holds for all exceptions. */
+final class SavedSentences {
+    private SavedSentences() {
     }
 
     static void run() {

@@ -1,8 +1,8 @@
-/** The boundary cases of the schedule: promises 37 to 46. */
-final class ScheduleEdges {
+/** The sentences about the schedule: promises 37 to 46. */
+final class ScheduleSentences {
     private static final String SECTION = "SCHEDULE";
 
-    private ScheduleEdges() {
+    private ScheduleSentences() {
     }
 
     static void run() {
@@ -14,6 +14,8 @@ final class ScheduleEdges {
         promise42();
         promise43And44();
         promise45And46();
+        timesPlain();
+        whichBatchZoneOrder();
     }
 
     /**
@@ -125,7 +127,7 @@ final class ScheduleEdges {
         String[] names = {"workTime", "startTime", "leaveTime"};
         for (int k = 0; k < 3; k++) {
             Sentences.test("Promise " + (37 + k), "Throws `IndexOutOfBoundsException` if there is no such batch or zone");
-            RouteEdges.noSuchBatchOrZone(names[k], "");
+            RouteSentences.noSuchBatchOrZone(names[k], "");
             Run.of(Halls.BUSY).refuses(names[k] + " MIN MAX", Run.INDEX).refuses(names[k] + " MAX MIN", Run.INDEX)
                     .refuses(names[k] + " -1 3", Run.INDEX);
         }
@@ -214,5 +216,31 @@ final class ScheduleEdges {
         batches(1, "1, 1").is("meanTardinessDenominator", 1).then("setDue 0 1").is("meanTardinessDenominator", 2)
                 .then("setDue 0 2\nsetDue 1 4").is("meanTardinessDenominator", 1).then("dissolve 0\ndissolve 0")
                 .is("meanTardinessDenominator", 1);
+    }
+
+    private static void timesPlain() {
+        Sentences.test("Promise 37", "Returns the work time.");
+        Run.of(Halls.BUSY).are("workTime 0 #", 0, 7 + 26 + 6, 7 + 20 + 6).are("workTime 1 #", 7 + 6 + 3, 0, 0);
+        batches(3, "1 2 3, 4 5 6").are("workTime 0 #", 2, 4, 6).are("workTime 1 #", 8, 10, 12);
+        Sentences.test("Promise 38", "Returns the time at which the batch starts in the zone.");
+        // No buffer behind zone 0: batch 1 waits there until 39.
+        Run.of(Halls.BUSY).are("startTime 0 #", 0, 0, 39).are("startTime 1 #", 0, 39, 72);
+        batches(3, "1 2 3, 4 5 6").are("startTime 0 #", 0, 2, 6).are("startTime 1 #", 2, 10, 20);
+    }
+
+    private static void whichBatchZoneOrder() {
+        String[] names = {"workTime", "startTime", "leaveTime"};
+        for (int k = 0; k < names.length; k++) {
+            Sentences.test("Promise " + (37 + k), "- `batch`: a batch");
+            batches(2, "1 1, 1 1, 1 1").range(names[k] + " # 0", 0, 2, Run.INDEX).range(names[k] + " # 1", 0, 2, Run.INDEX);
+            Sentences.test("Promise " + (37 + k), "- `zone`: a zone");
+            batches(2, "1 1").range(names[k] + " 0 #", 0, 1, Run.INDEX);
+            batches(1, "1").range(names[k] + " 0 #", 0, 0, Run.INDEX);
+        }
+        Sentences.test("Promise 40", "- `zone`: a zone");
+        batches(2, "1 1").range("blockedTime #", 0, 1, Run.INDEX);
+        batches(3, "1 1 1").range("blockedTime #", 0, 2, Run.INDEX);
+        Sentences.test("Promise 42", "- `order`: an order");
+        batches(1, "1, 1, 1").range("lateness #", 0, 2, Run.INDEX);
     }
 }

@@ -1,8 +1,8 @@
-/** The boundary cases of the policies, zones, buffers, times and routes: promises 26 to 36. */
-final class RouteEdges {
+/** The sentences about the policies, zones, buffers, times and routes: promises 26 to 36. */
+final class RouteSentences {
     private static final String SECTION = "ZONES AND ROUTES";
 
-    private RouteEdges() {
+    private RouteSentences() {
     }
 
     static void run() {
@@ -19,6 +19,9 @@ final class RouteEdges {
         promise32And33();
         promise34And35();
         promise36();
+        settingsPlain();
+        routesPlain();
+        whichBatchAndZone();
     }
 
     /** A batch with an item at each place "aisle place, aisle place, .."; the layout comes first. */
@@ -321,5 +324,64 @@ final class RouteEdges {
         // With LARGEST GAP a batch can be longer than its orders alone: 22 + 2 against 2 and 2 + 2.
         Run.of("setLayout 2 10 1\nsetPolicy 2\naddItem 0 1 1 1\naddItem 1 1 1 1\naddOrder 0\naddLine 0 0 1\naddOrder 0\n"
                 + "addLine 1 1 1\naddBatch 3").is("savedDistance", 2 + 4 - 24);
+    }
+
+    private static void settingsPlain() {
+        Sentences.test("Promise 26", "Sets the policy in force.");
+        // Lengths by the policies: 4 + 2 * 2 + 2 * 1 + 2 * 20, 4 + 21 * 2 + 2 * 20, 4 + 21 * 2 + 2, and the first one again.
+        Run x = batch("3 20 1", "0 2, 1 1, 2 20").lengths(0, 0, 50, 86, 48, 50);
+        int[] lengths = {50, 86, 48, 50};
+        for (int policy = 3; policy >= 0; policy--) {
+            x.changes("setPolicy " + policy, "policy").is("batchRoute 0", lengths[policy]).is("workTime 0 0", lengths[policy] + 3);
+            x.stops(0, 0, policy == 2 ? new int[] {0, 2, 1} : new int[] {0, 1, 2}).lengths(0, 0, lengths);
+        }
+        Sentences.test("Promise 27", "Divides the hall into zones.");
+        Run.of("setLayout 6 2 1").changes("setZones 2 -1", "zones").are("zoneOf #", 0, 0, 1, 1, 1, 1)
+                .changes("setZones 2 4", "zones").are("zoneOf #", 0, 0, 1, 1, 2, 2)
+                .changes("setZones -1 -1", "zones").are("zoneOf #", 0, 0, 0, 0, 0, 0);
+        // Items and batches may be there.
+        Run.of(Halls.BUSY).changes("setZones 1 3", "zones").stops(0, 1, 2).stops(0, 2, 3, 4, 5).stops(1, 0, 0);
+        Sentences.test("Promise 28", "- `aisle`: an aisle");
+        Run.of("setLayout 3 2 1").range("zoneOf #", 0, 2, Run.INDEX);
+        Sentences.test("Promise 28", "Returns its zone.");
+        Run.of(Halls.BUSY).are("zoneOf #", 0, 0, 1, 1, 2);
+        Run.of(Halls.FULL).are("zoneOf #", 0, 0, 1, 1, 1, 2);
+        Sentences.test("Promise 30", "Sets the setup time and the time per item.");
+        // Batch 0 has 2 stops in zone 1, where it walks 26, and 2 in zone 2, where it walks 20.
+        Run.of(Halls.BUSY).changes("setTimes 50 8", "times").are("workTime 0 #", 0, 50 + 26 + 16, 50 + 20 + 16)
+                .changes("setTimes 0 8", "times").are("workTime 0 #", 0, 42, 36)
+                .changes("setTimes 0 0", "times").are("workTime 0 #", 0, 26, 20);
+    }
+
+    private static void routesPlain() {
+        Sentences.test("Promise 31", "Returns the length of the route of the batch in the zone by this policy.");
+        // Zone 1 has place 1 of its first aisle and place 7 of the next one; the policy in force does not matter.
+        Run x = Run.of(Halls.BUSY);
+        for (int policy = 0; policy < 4; policy++) {
+            x.then("setPolicy " + policy).lengths(0, 0, 0, 0, 0, 0).lengths(0, 1, 4 + 2 + 14, 4 + 22, 4 + 22, 4 + 2 + 14)
+                    .lengths(0, 2, 20, 20, 20, 20).lengths(1, 0, 6, 6, 6, 6).lengths(1, 1, 0, 0, 0, 0).lengths(1, 2, 0, 0, 0, 0);
+        }
+        Sentences.test("Promise 35", "Returns the item of the stop, by the policy in force.");
+        // Policy 0: aisle by aisle. 1 and 3: up, down. 2: with two aisles as 1.
+        Run y = batch("2 20 1", "0 19, 0 20, 1 19, 1 20").stops(0, 0, 0, 1, 2, 3);
+        for (int policy = 1; policy < 4; policy++) {
+            y.then("setPolicy " + policy).stops(0, 0, 0, 1, 3, 2);
+        }
+        y.then("setPolicy 0").stops(0, 0, 0, 1, 2, 3).then("setZones 1 -1\nsetPolicy 1").stops(0, 0, 0, 1).stops(0, 1, 2, 3);
+    }
+
+    private static void whichBatchAndZone() {
+        String[] names = {"routeLength # 1 0", "batchRoute #", "bestPolicy #", "stopCount # 1", "stopItem # 0 0"};
+        for (int k = 0; k < names.length; k++) {
+            Sentences.test("Promise " + (31 + k), "- `batch`: a batch");
+            Run.of(Halls.FULL).range(names[k], 0, 7, Run.INDEX).then("dissolve 3").range(names[k], 0, 6, Run.INDEX);
+        }
+        String[] zones = {"31 routeLength 0 # 0", "34 stopCount 0 #", "35 stopItem 0 # 0"};
+        for (String zone : zones) {
+            Sentences.test("Promise " + zone.substring(0, 2), "- `zone`: a zone");
+            batch("3 2 1", "0 1, 1 1, 2 1").range(zone.substring(3), 0, 0, Run.INDEX)
+                    .then("setZones 1 -1").range(zone.substring(3), 0, 1, Run.INDEX)
+                    .then("setZones 1 2").range(zone.substring(3), 0, 2, Run.INDEX);
+        }
     }
 }

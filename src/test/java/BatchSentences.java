@@ -1,11 +1,11 @@
-/** The boundary cases of the batches: promises 18 to 25. */
-final class BatchEdges {
+/** The sentences about the batches: promises 18 to 25. */
+final class BatchSentences {
     private static final String SECTION = "BATCHES";
 
     /** An item of the weight 1 at place 1 of each of 4 aisles. */
     private static final String ITEMS = "addItem 0 1 1 99\naddItem 1 1 1 99\naddItem 2 1 1 99\naddItem 3 1 1 99\n";
 
-    private BatchEdges() {
+    private BatchSentences() {
     }
 
     static void run() {
@@ -22,6 +22,9 @@ final class BatchEdges {
         promise25();
         promise25Ties();
         promise25Search();
+        batchesPlain();
+        promise18And19Plain();
+        promise20To25Plain();
     }
 
     /** A hall with the items above; the orders of the script "due item quantity item quantity, due ..". */
@@ -287,5 +290,56 @@ final class BatchEdges {
         Sentences.test("Promise 25", "Returns the total tardiness then.");
         orders("2 0 1, 0 1 1").then("addBatch 2\naddBatch 1").is("totalTardiness", 7 + 8)
                 .is("sortBatches 2", 1 + 10).is("totalTardiness", 11).batches(1, 2);
+    }
+
+    private static void batchesPlain() {
+        Sentences.test(SECTION, "A batch is a set of orders that are picked together; these orders are BATCHED.");
+        equalOrders(4).then("addBatch 10").are("orderState #", 0, 1, 0, 1).batches(10).then("pickBatch")
+                .are("orderState #", 0, 2, 0, 2).batches();
+        equalOrders(4).then("makeBatches 2 99 0").are("orderState #", 1, 1, 1, 1).batches(3, 12).then("pickBatch")
+                .are("orderState #", 2, 2, 1, 1).batches(12);
+        Sentences.test(SECTION, "The weight of a batch is the sum of the weights of its orders.");
+        Run.of(Halls.BUSY).are("orderWeight #", 20, 150, 12, 6, 451, 198).are("batchWeight #", 6 + 451, 198);
+        orders("1 0 10 1 20, 1 0 30, 1 3 5").then("addBatch 5\naddBatch 2").are("batchWeight #", 35, 30)
+                .then("cancel 0").are("batchWeight #", 5, 30);
+    }
+
+    private static void promise18And19Plain() {
+        Sentences.test("Promise 18", "Returns the number of new batches.");
+        equalOrders(5).then("addBatch 1").is("makeBatches 2 99 0", 2).batches(1, 6, 24).is("makeBatches 2 99 0", 0);
+        equalOrders(5).is("makeBatches 5 99 0", 1).batches(31);
+        Sentences.test("Promise 19", "Adds a batch at the end of the sequence.");
+        equalOrders(5).changes("addBatch 12", "batches", "order 2 state", "order 3 state").batches(12)
+                .changes("addBatch 1", "batches", "order 0 state").batches(12, 1)
+                .changes("addBatch 18", "batches", "order 1 state", "order 4 state").batches(12, 1, 18)
+                .are("orderState #", 1, 1, 1, 1, 1);
+        // More orders and more weight than makeBatches could ever put together.
+        Run.of(Halls.FULL).then("dissolve 0\n".repeat(8) + "addBatch 63231").batches(63231).is("batchWeight 0", 13 * 29700 + 4950);
+        Sentences.test("Promise 19", "Returns the number of the batch.");
+        equalOrders(5).is("addBatch 16", 0).is("addBatch 3", 1).is("addBatch 8", 2).then("dissolve 0").is("addBatch 16", 2);
+    }
+
+    private static void promise20To25Plain() {
+        Sentences.test("Promise 20", "Removes a batch; its orders are OPEN then.");
+        equalOrders(5).then("addBatch 3\naddBatch 12\naddBatch 16")
+                .changes("dissolve 1", "batches", "order 2 state", "order 3 state").batches(3, 16).are("orderState #", 1, 1, 0, 0, 1)
+                .changes("dissolve 1", "batches", "order 4 state").batches(3).is("addBatch 28", 1);
+        String[] names = {"dissolve", "", "batchOrders", "batchWeight"};
+        for (int k = 0; k < names.length; k++) {
+            if (!names[k].isEmpty()) {
+                Sentences.test("Promise " + (20 + k), "- `batch`: a batch");
+                equalOrders(3).then("addBatch 4\naddBatch 2\naddBatch 1").range(names[k] + " #", 0, 2, Run.INDEX);
+            }
+        }
+        Sentences.test("Promise 22", "Returns its orders as a bit mask.");
+        Run.of(Halls.BUSY).are("batchOrders #", 1 << 3 | 1 << 4, 1 << 5).then("addBatch 256").is("batchOrders 2", 1 << 8);
+        Sentences.test("Promise 24", "Returns the number of moves.");
+        // Item 0 is 2 away and item 1 is 2 + 4 away. Orders 0 and 2 join their like, one move each; then nothing is gained.
+        orders("1 0 1, 1 0 1, 1 1 1, 1 1 1").then("addBatch 1\naddBatch 2\naddBatch 4\naddBatch 8").is("savedDistance", 0)
+                .is("improve 2 99", 2).batches(3, 12).is("savedDistance", 2 + 6).is("improve 2 99", 0);
+        Sentences.test("Promise 25", "Brings the batches into another sequence.");
+        // The orders stay together, and everything but the sequence stays as it is.
+        orders("9 0 1, 8 1 1, 7 2 1, 1 3 1").then("addBatch 3\naddBatch 4\naddBatch 8").changes("sortBatches 0", "batches")
+                .batches(8, 4, 3).changes("sortBatches 1", "batches").batches(3, 4, 8);
     }
 }

@@ -1,8 +1,8 @@
-/** The boundary cases of picking and ordering again: promises 47 to 52. */
-final class PickingEdges {
+/** The sentences about picking and ordering again: promises 47 to 52. */
+final class PickingSentences {
     private static final String SECTION = "PICKING";
 
-    private PickingEdges() {
+    private PickingSentences() {
     }
 
     static void run() {
@@ -12,6 +12,8 @@ final class PickingEdges {
         promise50And51();
         promise52();
         promise52Refused();
+        whichOrderAndLine();
+        promise52Plain();
     }
 
     private static void stock() {
@@ -126,5 +128,35 @@ final class PickingEdges {
         Run.of(Halls.BUSY).then("addOrder 1\n".repeat(7)).refuses("reorder 2 5", Run.STATE);
         // Stock that comes later does not change what was short.
         Run.of(Halls.BUSY).then("restock 1 999").is("shortUnits 2 0", 4).is("reorder 2 5", 9);
+    }
+
+    private static void whichOrderAndLine() {
+        String[] names = {"pickedUnits", "shortUnits"};
+        for (int k = 0; k < 2; k++) {
+            Sentences.test("Promise " + (48 + k), "- `order`: an order");
+            Run.of(Halls.BUSY).then("cancel 6\naddLine 8 3 1").then(names[k] + " 0 0\n" + names[k] + " 8 2")
+                    .refuses(names[k] + " 9 0", Run.INDEX).refuses(names[k] + " -1 0", Run.INDEX);
+            Sentences.test("Promise " + (48 + k), "- `line`: a line of the order");
+            // DONE, BATCHED, CANCELLED and OPEN, with 2, 2, 1 and 2 lines.
+            Run.of(Halls.BUSY).range(names[k] + " 0 #", 0, 1, Run.INDEX).range(names[k] + " 4 #", 0, 1, Run.INDEX)
+                    .range(names[k] + " 7 #", 0, 0, Run.INDEX).range(names[k] + " 8 #", 0, 1, Run.INDEX);
+        }
+    }
+
+    private static void promise52Plain() {
+        Sentences.test("Promise 52", "- `order`: an order");
+        Run.of("addItem 0 1 1 0\naddOrder 1\naddLine 0 0 1\naddOrder 1\naddLine 1 0 2\naddOrder 1\naddLine 2 0 3\n"
+                + "addBatch 7\npickBatch").range("reorder # 1", 0, 2, Run.INDEX);
+        Sentences.test("Promise 52", "Returns the number of the new order.");
+        Run.of(Halls.BUSY).then("addOrder 5").is("reorder 2 1", 10).is("orderCount", 11)
+                .then("pickBatch\npickBatch").is("reorder 5 1", 11);
+        Sentences.test("Promise 52", "Orders again what is short in a DONE order: adds an OPEN order with a line for each");
+        // Short are 1, 0, 30 and 9 units of the items 3, 0, 2 and 1: three lines, in this sequence.
+        Run.of("addItem 0 1 1 99\naddItem 1 1 2 90\naddItem 2 1 4 0\naddItem 3 1 8 4\naddOrder 1\naddLine 0 3 5\n"
+                + "addLine 0 0 7\naddLine 0 2 30\naddLine 0 1 99\naddBatch 1\npickBatch")
+                .are("shortUnits 0 #", 1, 0, 30, 9).changes("reorder 0 66", "order 0 again", "order 1 *")
+                .is("lineCount 1", 3).is("due 1", 66).is("orderWeight 1", 8 + 120 + 18).is("orderAisles 1", 14)
+                .then("restock 1 50\nrestock 2 50\nrestock 3 50\naddBatch 2").is("pickBatch", 40)
+                .are("pickedUnits 1 #", 1, 30, 9).are("stock #", 92, 41, 20, 49);
     }
 }
